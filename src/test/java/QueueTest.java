@@ -217,6 +217,7 @@ public final class QueueTest {
         p.with(x -> x.take(2, 5)).act(4, x -> x.empty(2));
         places(p, 2, 0, 6, 0, 0, -1);
         p.tells(0, x -> x.lies(1)).act(1, x -> x.put(2, 0)).tells(1, x -> x.lies(0));
+        p.act(0, x -> x.mark(1)).act(0, x -> x.empty(1)).refused(Probe.UNMARKED, x -> x.back(1));
     }
 
     private static void pass() {
