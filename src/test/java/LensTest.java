@@ -18,13 +18,6 @@ public final class LensTest {
         Probe.end();
     }
 
-    private static void tellAll(Probe p, int lens, int... wants) {
-        for (int k = 0; k < wants.length; k++) {
-            int what = k;
-            p.tells(wants[k], x -> x.lens(lens, what));
-        }
-    }
-
     private static void setPlace() {
         Probe p = new Probe("promise 35");
         p.act(12, x -> x.lensPlace(0, 3)).with(x -> x.lensTurn(0, 3)).act(0, x -> x.lensPlace(0, 15));
@@ -42,10 +35,10 @@ public final class LensTest {
         p.refused(Probe.UNFIT, x -> x.lensLimit(0, -1)).refused(Probe.UNFIT, x -> x.lensLimit(0, MIN));
         p.with(x -> x.lensPlace(0, 5)).with(x -> x.lensTurn(0, 3)).with(x -> x.lensPlace(0, 9));
         p.act(0, x -> x.lensLimit(0, 7));
-        tellAll(p, 0, 7, 7, 16, 0, 5, 1, 0, 0, -1);
+        Told.lens(p, 0, 7, 7, 16, 0, 5, 1, 0, 0, -1);
         p.act(0, x -> x.lensLimit(0, 5)).tells(5, x -> x.lens(0, 4)).tells(5, x -> x.lens(0, 0));
         p.act(0, x -> x.lensLimit(0, 4));
-        tellAll(p, 0, 4, 4, 16, 0, -1);
+        Told.lens(p, 0, 4, 4, 16, 0, -1);
         p.act(2, x -> x.lensLimit(0, 6)).act(0, x -> x.lensLimit(0, 0)).tells(0, x -> x.lens(0, 0));
         p.act(24, x -> x.lensLimit(1, 24)).refused(Probe.UNFIT, x -> x.lensLimit(1, 25));
         p.thrown(Probe.INDEX, x -> x.lensLimit(2, -1)).thrown(Probe.INDEX, x -> x.lensLimit(-1, 0));
@@ -55,13 +48,13 @@ public final class LensTest {
         Probe p = new Probe("promise 37");
         p.refused(Probe.UNMARKED, x -> x.lensTurn(0, 4)).refused(Probe.SEALED, x -> x.lensTurn(0, 5));
         p.act(1, x -> x.lensTurn(0, 3)).with(x -> x.lensPlace(0, 4)).act(1, x -> x.lensTurn(0, 4));
-        tellAll(p, 0, 1, 15, 16, 14, 1);
+        Told.lens(p, 0, 1, 15, 16, 14, 1);
         p.with(x -> x.lensPlace(0, 4)).act(0, x -> x.lensTurn(0, 1));
-        tellAll(p, 0, 0, 4, 16, 4, -1);
+        Told.lens(p, 0, 0, 4, 16, 4, -1);
         p.with(x -> x.lensPlace(0, 3)).with(x -> x.lensTurn(0, 3)).act(0, x -> x.lensTurn(0, 2));
-        tellAll(p, 0, 0, 4, 16, 4, -1);
+        Told.lens(p, 0, 0, 4, 16, 4, -1);
         p.with(x -> x.lensPlace(0, 2)).with(x -> x.lensTurn(0, 3)).act(0, x -> x.lensTurn(0, 0));
-        tellAll(p, 0, 0, 16, 16, 16, -1);
+        Told.lens(p, 0, 0, 16, 16, 16, -1);
         p.refused(Probe.UNMARKED, x -> x.lensTurn(0, 4)).refused(Probe.UNMARKED, x -> x.lensTurn(1, 4));
         p.thrown(Probe.ARGUMENT, x -> x.lensTurn(0, 6)).thrown(Probe.ARGUMENT, x -> x.lensTurn(1, -1));
         p.thrown(Probe.INDEX, x -> x.lensTurn(2, 6)).thrown(Probe.INDEX, x -> x.lensTurn(-1, 0));
@@ -75,7 +68,7 @@ public final class LensTest {
         }
         p.with(x -> x.lensLimit(1, 7)).with(x -> x.lensPlace(1, 2)).with(x -> x.lensTurn(1, 3));
         p.act(5, x -> x.lensTurn(1, 5));
-        tellAll(p, 1, 5, 24, 24, 19, -1, 0, 1, 0, 11);
+        Told.lens(p, 1, 5, 24, 24, 19, -1, 0, 1, 0, 11);
         int[] wants = {3, 4, 5, 6, 7, 6, 7, 8, 9};
         for (int i = 0; i < wants.length; i++) {
             int k = i;
@@ -85,31 +78,31 @@ public final class LensTest {
         p.tells(20, x -> x.fourth(4, 3)).tells(22, x -> x.fourth(5, 0)).tells(24, x -> x.fourth(5, 2));
         p.tells(24, x -> x.fourth(5, 3)).with(x -> x.lensMake(1, 2)).refused(Probe.SEALED, x -> x.lensTurn(1, 5));
         p.with(x -> x.lensMake(1, 3)).with(x -> x.lensPlace(1, 24)).act(0, x -> x.lensTurn(1, 5));
-        tellAll(p, 1, 0, 24, 24, 24, -1);
+        Told.lens(p, 1, 0, 24, 24, 24, -1);
     }
 
     private static void make() {
         Probe p = new Probe("promise 38");
         p.with(x -> x.lensPlace(1, 4)).with(x -> x.lensTurn(1, 3)).with(x -> x.lensPlace(1, 6));
         p.with(x -> x.lensLimit(1, 20)).act(24, x -> x.lensMake(1, 0));
-        tellAll(p, 1, 6, 20, 24, 14, 4, 0, 1, 0, 11);
+        Told.lens(p, 1, 6, 20, 24, 14, 4, 0, 1, 0, 11);
         p.act(14, x -> x.lensMake(1, 1));
-        tellAll(p, 1, 0, 14, 14, 14, -1, 0, 1, 0, 17);
+        Told.lens(p, 1, 0, 14, 14, 14, -1, 0, 1, 0, 17);
         p.with(x -> x.lensPlace(1, 3)).with(x -> x.lensTurn(1, 3)).act(14, x -> x.lensMake(1, 2));
-        tellAll(p, 1, 3, 14, 14, 11, 3, 1, 0, 0, -1);
+        Told.lens(p, 1, 3, 14, 14, 11, 3, 1, 0, 0, -1);
         p.act(14, x -> x.lensMake(1, 0)).tells(1, x -> x.lens(1, 5));
         p.act(11, x -> x.lensMake(1, 1));
-        tellAll(p, 1, 0, 11, 11, 11, -1, 1, 0, 0, -1);
+        Told.lens(p, 1, 0, 11, 11, 11, -1, 1, 0, 0, -1);
         p.act(24, x -> x.lensMake(1, 3));
-        tellAll(p, 1, 0, 24, 24, 24, -1, 0, 1, 0, 11);
+        Told.lens(p, 1, 0, 24, 24, 24, -1, 0, 1, 0, 11);
         p.act(14, x -> x.lensMake(0, 1));
-        tellAll(p, 0, 0, 14, 14, 14, -1, 1, 0, 0, -1);
+        Told.lens(p, 0, 0, 14, 14, 14, -1, 1, 0, 0, -1);
         p.with(x -> x.lensPlace(0, 14)).act(0, x -> x.lensMake(0, 1)).act(0, x -> x.lensMake(0, 1));
-        tellAll(p, 0, 0, 0, 0, 0, -1);
+        Told.lens(p, 0, 0, 0, 0, 0, -1);
         p.act(16, x -> x.lensMake(0, 3));
-        tellAll(p, 0, 1, 15, 16, 14, -1, 1, 0, 0, -1);
+        Told.lens(p, 0, 1, 15, 16, 14, -1, 1, 0, 0, -1);
         p.with(x -> x.lensPlace(1, 24)).act(0, x -> x.lensMake(1, 1));
-        tellAll(p, 1, 0, 0, 0, 0, -1, 0, 1, 0, 35);
+        Told.lens(p, 1, 0, 0, 0, 0, -1, 0, 1, 0, 35);
         p.thrown(Probe.ARGUMENT, x -> x.lensMake(0, 4)).thrown(Probe.ARGUMENT, x -> x.lensMake(1, -1));
         p.thrown(Probe.INDEX, x -> x.lensMake(2, 4)).thrown(Probe.INDEX, x -> x.lensMake(-1, 0));
     }
@@ -121,9 +114,9 @@ public final class LensTest {
         p.refused(Probe.BEYOND, x -> x.lensCut(0, 3, 13)).refused(Probe.BEYOND, x -> x.lensCut(0, 3, MAX));
         p.refused(Probe.BEYOND, x -> x.lensCut(0, MIN, MIN)).refused(Probe.BEYOND, x -> x.lensCut(0, MAX, 1));
         p.with(x -> x.lensTurn(0, 3)).act(12, x -> x.lensCut(0, 3, 12));
-        tellAll(p, 0, 0, 12, 12, 12, -1, 1, 0, 0, -1);
+        Told.lens(p, 0, 0, 12, 12, 12, -1, 1, 0, 0, -1);
         p.with(x -> x.lensPlace(1, 9)).act(20, x -> x.lensCut(1, 2, 20));
-        tellAll(p, 1, 0, 20, 20, 20, -1, 0, 1, 0, 13);
+        Told.lens(p, 1, 0, 20, 20, 20, -1, 0, 1, 0, 13);
         p.act(5, x -> x.lensCut(1, 7, 5)).tells(20, x -> x.lens(1, 8)).act(0, x -> x.lensCut(1, 5, 0));
         p.tells(25, x -> x.lens(1, 8)).act(0, x -> x.lensCut(1, 0, 0)).refused(Probe.BEYOND, x -> x.lensCut(1, 1, 0));
         p.act(16, x -> x.lensMake(0, 3)).act(0, x -> x.lensCut(0, 15, 0)).act(24, x -> x.lensMake(1, 3));
@@ -134,7 +127,7 @@ public final class LensTest {
     private static void tellers() {
         Probe p = new Probe("promise 40");
         p.with(x -> x.lensPlace(1, 2)).with(x -> x.lensTurn(1, 3)).with(x -> x.nextShort());
-        tellAll(p, 1, 3, 24, 24, 21, 2, 0, 1, 0, 11);
+        Told.lens(p, 1, 3, 24, 24, 21, 2, 0, 1, 0, 11);
         p.thrown(Probe.ARGUMENT, x -> x.lens(0, 9)).thrown(Probe.ARGUMENT, x -> x.lens(1, -1));
         p.thrown(Probe.INDEX, x -> x.lens(2, 9)).thrown(Probe.INDEX, x -> x.lens(-1, 0));
     }

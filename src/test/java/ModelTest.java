@@ -1,8 +1,5 @@
-import java.lang.reflect.InvocationTargetException;
 import java.lang.reflect.Method;
-import java.lang.reflect.Modifier;
 import java.util.Arrays;
-import java.util.Comparator;
 
 /** Runs of calls, each on a new object and on a NioShelf at once: all promises, in states that no one thought of. */
 public final class ModelTest {
@@ -21,38 +18,24 @@ public final class ModelTest {
         return (int) ((seed >>> 33) % bound);
     }
 
-    public static void main(String[] args) throws Exception {
-        Method[] ours = Sluiceshelf.class.getDeclaredMethods();
-        ours = Arrays.stream(ours).filter(m -> Modifier.isPublic(m.getModifiers())).toArray(Method[]::new);
-        Arrays.sort(ours, Comparator.comparing(Method::getName));
-        Method[] theirs = new Method[ours.length];
-        for (int i = 0; i < ours.length; i++) {
-            theirs[i] = NioShelf.class.getDeclaredMethod(ours[i].getName(), ours[i].getParameterTypes());
-        }
+    public static void main(String[] args) {
         for (int run = 0; run < RUNS; run++) {
-            oneRun(run, ours, theirs);
+            oneRun(run);
         }
         Probe.end();
     }
 
-    private static void oneRun(int run, Method[] ours, Method[] theirs) throws Exception {
-        Sluiceshelf x = new Sluiceshelf();
-        NioShelf model = new NioShelf();
-        int[] weights = weights(ours.length);
+    private static void oneRun(int run) {
+        Pair pair = new Pair();
+        int[] weights = weights(Pair.FACE.size());
         int sum = Arrays.stream(weights).sum();
         int wildness = run % 4 == 0 ? 5 : 60;
-        for (int call = 0; call < CALLS; call++) {
-            int method = chosen(weights, below(sum));
-            Object[] args = arguments(ours[method], wildness);
-            String told = ours[method].getName() + Arrays.toString(args);
-            Object got = answer(ours[method], x, args);
-            Object want = answer(theirs[method], model, args);
-            if (!got.equals(want)) {
-                Probe.due("run " + run + ", call " + call + ", " + told, got, want);
-                return;
-            }
-            if (call % LOOK_EVERY == 0 && (x.digest() != model.digest() || !x.isSound())) {
-                Probe.due("run " + run + ", call " + call + ", the state after " + told, "another", "that of the model");
+        for (int k = 0; k < CALLS; k++) {
+            Method method = Pair.FACE.get(chosen(weights, below(sum)));
+            Pair.Call call = new Pair.Call(method.getName(), arguments(method, wildness));
+            String about = "run " + run + ", call " + k;
+            boolean alike = pair.answersAlike(about, call);
+            if (!alike || k % LOOK_EVERY == 0 && !pair.standsAlike(about + ", after " + call)) {
                 return;
             }
         }
@@ -92,7 +75,8 @@ public final class ModelTest {
         boolean isValue = name.equals("lay") && at > 0 || name.equals("layFourth") && at == 2
                 || name.equals("putNext") || name.equals("putAt") && at == 1;
         if (isValue) {
-            return name.equals("lay") ? below(3) * 65536 * (below(9) - 4) + below(65536) : below(7) * below(4000) - 8000;
+            return name.equals("lay") ? below(3) * 65536 * (below(9) - 4) + below(65536)
+                    : below(7) * below(4000) - 8000;
         }
         switch (name) {
             case "lensPlace", "lensLimit", "lensCut", "longAt", "shortAt", "putAt":
@@ -105,14 +89,6 @@ public final class ModelTest {
                 return below(18) - 1;
             default:
                 return below(8) == 0 ? below(12) - 1 : below(4);
-        }
-    }
-
-    private static Object answer(Method method, Object on, Object[] args) throws IllegalAccessException {
-        try {
-            return method.invoke(on, args);
-        } catch (InvocationTargetException e) {
-            return "throws " + e.getCause().getClass().getName();
         }
     }
 }

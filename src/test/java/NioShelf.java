@@ -5,7 +5,7 @@ import java.nio.ShortBuffer;
 import java.util.ArrayList;
 import java.util.List;
 
-/** The same face over the buffers of java.nio, whose marks, slices and twins are not ours: what ModelTest compares with. */
+/** The same face over the buffers of java.nio, whose marks, slices and twins are not ours: to compare with. */
 final class NioShelf {
     private static final int FULL = 1;
     private static final int EMPTY = 2;
@@ -295,7 +295,8 @@ final class NioShelf {
         argument(within(what, 6));
         LongBuffer w = writers[queue];
         LongBuffer r = readers[queue];
-        return new int[] {w.position(), w.limit(), r.position(), r.limit(), markOf(r), w.capacity(), w.arrayOffset()}[what];
+        return new int[] {w.position(), w.limit(), r.position(), r.limit(), markOf(r), w.capacity(),
+            w.arrayOffset()}[what];
     }
 
     public String queueText(int queue) {

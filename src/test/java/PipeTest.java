@@ -11,22 +11,8 @@ public final class PipeTest {
         Probe.end();
     }
 
-    /** Slot 0 has the fourths 1 to 4, slot 1 -1 to -4. */
-    private static Probe laid(String about) {
-        return new Probe(about)
-                .with(x -> x.lay(0, 0x00010002, 0x00030004))
-                .with(x -> x.lay(1, 0xFFFFFFFE, 0xFFFDFFFC));
-    }
-
-    private static void tellAll(Probe p, int... wants) {
-        for (int k = 0; k < wants.length; k++) {
-            int what = k;
-            p.tells(wants[k], x -> x.pipe(what));
-        }
-    }
-
     private static void pour() {
-        Probe p = laid("promise 25");
+        Probe p = Told.fourths("promise 25");
         p.act(1, x -> x.pour(0, 3)).act(2, x -> x.pour(1, 0)).tells("4 -1", x -> x.pipeText());
         for (int i = 3; i <= 10; i++) {
             int place = i;
@@ -41,7 +27,7 @@ public final class PipeTest {
     }
 
     private static void pourAll() {
-        Probe p = laid("promise 26");
+        Probe p = Told.fourths("promise 26");
         p.act(4, x -> x.pourAll(0, 0)).act(1, x -> x.pourAll(1, 3)).act(2, x -> x.pourAll(1, 2));
         p.tells("1 2 3 4 -4 -3 -4", x -> x.pipeText());
         p.act(3, x -> x.pourAll(0, 0)).tells("1 2 3 4 -4 -3 -4 1 2 3", x -> x.pipeText());
@@ -54,7 +40,7 @@ public final class PipeTest {
     }
 
     private static void draw() {
-        Probe p = laid("promise 27");
+        Probe p = Told.fourths("promise 27");
         p.thrown(Probe.STATE, x -> x.draw());
         p.with(x -> x.lay(2, 0x80007FFF, 0)).with(x -> x.pour(1, 1)).with(x -> x.pourAll(2, 0));
         p.thrown(Probe.STATE, x -> x.draw());
@@ -64,7 +50,7 @@ public final class PipeTest {
     }
 
     private static void drawAll() {
-        Probe p = laid("promise 28");
+        Probe p = Told.fourths("promise 28");
         p.thrown(Probe.STATE, x -> x.drawAll(0)).thrown(Probe.INDEX, x -> x.drawAll(6));
         p.with(x -> x.pourAll(0, 0)).with(x -> x.pourAll(1, 0)).with(x -> x.pour(0, 0)).with(x -> x.turn());
         p.with(x -> x.lay(5, 0x00010001, 0x00030003)).act(2, x -> x.drawAll(5));
@@ -79,25 +65,25 @@ public final class PipeTest {
     }
 
     private static void turnAndAgain() {
-        Probe p = laid("promises 29 and 30");
+        Probe p = Told.fourths("promises 29 and 30");
         p.act(0, x -> x.turn()).act(0, x -> x.again()).act(10, x -> x.turn());
         p.with(x -> x.pourAll(0, 0)).with(x -> x.pipeMark()).with(x -> x.pourAll(1, 0));
-        tellAll(p, 8, 10, 2, 10, 4, 0, 1, 8);
+        Told.pipe(p, 8, 10, 2, 10, 4, 0, 1, 8);
         p.act(8, x -> x.turn());
-        tellAll(p, 0, 8, 8, 10, -1, 1, 1, 8);
+        Told.pipe(p, 0, 8, 8, 10, -1, 1, 1, 8);
         p.with(x -> x.draw()).with(x -> x.pipeMark()).with(x -> x.drawAll(5));
         p.act(8, x -> x.again());
-        tellAll(p, 0, 8, 8, 10, -1, 1, 1, 8);
+        Told.pipe(p, 0, 8, 8, 10, -1, 1, 1, 8);
         p.with(x -> x.drawAll(5)).with(x -> x.pipeMark()).with(x -> x.draw()).act(7, x -> x.turn());
-        tellAll(p, 3, 10, 7, 10, -1, 0, 1, 3);
+        Told.pipe(p, 3, 10, 7, 10, -1, 0, 1, 3);
         p.tells("-2 -3 -4", x -> x.pipeText()).with(x -> x.pipeMark()).act(10, x -> x.again());
-        tellAll(p, 0, 10, 10, 10, -1, 0, 1, 0);
+        Told.pipe(p, 0, 10, 10, 10, -1, 0, 1, 0);
         p.tells("", x -> x.pipeText()).act(1, x -> x.pour(0, 0)).tells("1", x -> x.pipeText());
         p.act(1, x -> x.turn()).act(1, x -> x.draw()).refused(Probe.EMPTY, x -> x.draw()).act(10, x -> x.turn());
     }
 
     private static void marks() {
-        Probe p = laid("promises 31 and 32");
+        Probe p = Told.fourths("promises 31 and 32");
         p.refused(Probe.UNMARKED, x -> x.pipeBack()).act(0, x -> x.pipeMark()).act(0, x -> x.pipeBack());
         p.with(x -> x.pourAll(0, 0)).act(4, x -> x.pipeMark()).with(x -> x.pourAll(1, 1));
         p.act(4, x -> x.pipeBack()).tells("1 2 3 4", x -> x.pipeText()).tells(4, x -> x.pipe(4));
@@ -109,12 +95,12 @@ public final class PipeTest {
     }
 
     private static void tellers() {
-        Probe p = laid("promises 33 and 34");
+        Probe p = Told.fourths("promises 33 and 34");
         p.tells("", x -> x.pipeText()).with(x -> x.lay(2, 0x8000, 0x7FFF0000)).with(x -> x.pourAll(2, 0));
         p.tells("0 -32768 32767 0", x -> x.pipeText());
-        tellAll(p, 4, 10, 6, 10, -1, 0, 1, 4);
+        Told.pipe(p, 4, 10, 6, 10, -1, 0, 1, 4);
         p.with(x -> x.turn()).with(x -> x.draw()).with(x -> x.draw()).with(x -> x.pipeMark()).with(x -> x.draw());
-        tellAll(p, 3, 4, 1, 10, 2, 1, 1, 1);
+        Told.pipe(p, 3, 4, 1, 10, 2, 1, 1, 1);
         p.tells("0", x -> x.pipeText()).with(x -> x.draw()).tells("", x -> x.pipeText());
         p.thrown(Probe.ARGUMENT, x -> x.pipe(8)).thrown(Probe.ARGUMENT, x -> x.pipe(-1));
         p.thrown(Probe.ARGUMENT, x -> x.pipe(Integer.MIN_VALUE));

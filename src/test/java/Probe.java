@@ -1,6 +1,12 @@
+import java.util.ArrayList;
+import java.util.Arrays;
+import java.util.List;
 import java.util.Objects;
 
-/** Calls of one object of Sluiceshelf, each with the answer that is due and what it must leave as it was. */
+/**
+ * A run of calls, each with the answer that is due and what it must leave as it was. Each check is made on an object of
+ * its own that all steps so far are done with again: what one object answers after 512 calls is free.
+ */
 final class Probe {
     static final int FULL = 1;
     static final int EMPTY = 2;
@@ -12,13 +18,24 @@ final class Probe {
     static final Class<?> ARGUMENT = IllegalArgumentException.class;
     static final Class<?> STATE = IllegalStateException.class;
 
+    private static final int MOST_CALLS = 512;
+    /** How many calls state() and counts() make. */
+    private static final int CALLS_OF_A_LOOK = 81;
+    /** A check looks before and after its call, and asks isSound(). */
+    private static final int MOST_STEPS = MOST_CALLS - 2 * CALLS_OF_A_LOOK - 2;
+
     private static int wrong = 0;
 
     interface Call {
         Object of(Sluiceshelf x);
     }
 
-    private final Sluiceshelf x = new Sluiceshelf();
+    /** A method that tells one of several things. */
+    interface Asked {
+        Object of(Sluiceshelf x, int what);
+    }
+
+    private final List<Call> steps = new ArrayList<>();
     private final String about;
 
     Probe(String about) {
@@ -39,46 +56,78 @@ final class Probe {
         }
     }
 
+    /** The same steps under a name of its own; what is added to one of both is not added to the other. */
+    Probe branch(String aboutIt) {
+        Probe branch = new Probe(aboutIt);
+        branch.steps.addAll(steps);
+        return branch;
+    }
+
     /** Does what only prepares the next step. */
     Probe with(Call call) {
-        call.of(x);
+        steps.add(call);
+        if (steps.size() > MOST_STEPS) {
+            throw new IllegalStateException(about + ": more calls than the document lets");
+        }
         return this;
     }
 
     /** An act that must answer this and be counted as done, and as nothing else. */
     Probe act(Object want, Call call) {
-        String before = house();
-        int acts = x.house(0);
+        Sluiceshelf x = replayed();
+        int[] counts = counts(x);
         due(about, call.of(x), want);
-        due(about + ", acts", x.house(0), acts + 1);
-        due(about + ", counted besides", house(), before);
-        return sound();
+        counts[0]++;
+        due(about + ", what is counted with an act", Arrays.toString(counts(x)), Arrays.toString(counts));
+        sound(x);
+        return with(call);
+    }
+
+    /** An act that must answer this, be counted as done, and leave all else as it was. */
+    Probe actWithoutChange(Object want, Call call) {
+        Sluiceshelf x = replayed();
+        String before = state(x);
+        call.of(x);
+        due(about + ", changed by an act", state(x), before);
+        return act(want, call);
     }
 
     /** A call that must answer this and change nothing. */
     Probe tells(Object want, Call call) {
-        String before = all();
+        Sluiceshelf x = replayed();
+        String before = all(x);
         due(about, call.of(x), want);
-        due(about + ", changed", all(), before);
-        return sound();
+        due(about + ", changed by a call that only tells", all(x), before);
+        sound(x);
+        return this;
+    }
+
+    /** What must be told for 0, 1, 2 and so on. */
+    Probe tellsEach(Asked asked, Object... wants) {
+        for (int k = 0; k < wants.length; k++) {
+            int what = k;
+            branch(about + ", what is told for " + what).tells(wants[k], x -> asked.of(x, what));
+        }
+        return this;
     }
 
     /** A call that must be refused by this kind, with that counted once and nothing else changed. */
     Probe refused(int kind, Call call) {
-        String before = state();
-        int[] counts = counts();
+        Sluiceshelf x = replayed();
+        String before = state(x);
+        int[] counts = counts(x);
         due(about, call.of(x), -70000 - kind);
-        due(about + ", changed by a refusal", state(), before);
+        due(about + ", changed by a refusal", state(x), before);
         counts[kind]++;
-        for (int what = 0; what < counts.length; what++) {
-            due(about + ", house(" + what + ") with a refusal", x.house(what), counts[what]);
-        }
-        return sound();
+        due(about + ", what is counted with a refusal", Arrays.toString(counts(x)), Arrays.toString(counts));
+        sound(x);
+        return with(call);
     }
 
-    /** A call that must throw just this and change nothing. */
+    /** A call that must throw just this (null: nothing) and, if it throws, change nothing. */
     Probe thrown(Class<?> kind, Call call) {
-        String before = all();
+        Sluiceshelf x = replayed();
+        String before = all(x);
         Class<?> got = null;
         try {
             call.of(x);
@@ -86,16 +135,26 @@ final class Probe {
             got = e.getClass();
         }
         due(about + ", thrown", got, kind);
-        due(about + ", changed by a throw", all(), before);
-        return sound();
-    }
-
-    private Probe sound() {
-        due(about + ", isSound", x.isSound(), true);
+        if (got != null) {
+            due(about + ", changed by a throw", all(x), before);
+        }
+        sound(x);
         return this;
     }
 
-    private int[] counts() {
+    private Sluiceshelf replayed() {
+        Sluiceshelf x = new Sluiceshelf();
+        for (Call step : steps) {
+            step.of(x);
+        }
+        return x;
+    }
+
+    private void sound(Sluiceshelf x) {
+        due(about + ", isSound", x.isSound(), true);
+    }
+
+    private static int[] counts(Sluiceshelf x) {
         int[] counts = new int[8];
         for (int what = 0; what < 8; what++) {
             counts[what] = x.house(what);
@@ -103,19 +162,11 @@ final class Probe {
         return counts;
     }
 
-    private String house() {
-        StringBuilder text = new StringBuilder();
-        for (int what = 1; what < 8; what++) {
-            text.append(x.house(what)).append(' ');
-        }
-        return text.toString();
+    private static String all(Sluiceshelf x) {
+        return state(x) + " house " + Arrays.toString(counts(x));
     }
 
-    private String all() {
-        return state() + " house " + x.house(0) + " " + house();
-    }
-
-    private String state() {
+    private static String state(Sluiceshelf x) {
         StringBuilder text = new StringBuilder();
         for (int slot = 0; slot < 6; slot++) {
             text.append(x.slotText(slot)).append(' ');

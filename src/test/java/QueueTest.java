@@ -22,126 +22,102 @@ public final class QueueTest {
         Probe.end();
     }
 
-    /** Slots 0 to 5 have the numbers 1 to 6. */
-    private static Probe numbered(String about) {
-        Probe p = new Probe(about);
-        for (int i = 0; i < 6; i++) {
-            int slot = i;
-            p.with(x -> x.lay(slot, 0, slot + 1));
-        }
-        return p;
-    }
-
-    /** WRITER's place and limit, then READER's place, limit and mark. */
-    private static void places(Probe p, int queue, int... wants) {
-        for (int k = 0; k < wants.length; k++) {
-            int what = k;
-            p.tells(wants[k], x -> x.place(queue, what));
-        }
-    }
-
-    private static void state(Probe p, int queue, String text, int room, boolean full, boolean empty) {
-        p.tells(text, x -> x.queueText(queue)).tells(room, x -> x.room(queue));
-        p.tells(text.isEmpty() ? 0 : text.split(" ").length, x -> x.lies(queue));
-        p.tells(full, x -> x.isFull(queue)).tells(empty, x -> x.isEmpty(queue));
-    }
-
     private static void ringFills() {
-        Probe p = numbered("promise 8, a ring");
+        Probe p = Told.numbered("promise 8, a ring");
         for (int i = 0; i < 5; i++) {
             int k = i;
             p.act(k + 1, x -> x.put(0, k));
         }
         p.refused(Probe.FULL, x -> x.put(0, 5)).tells("1", x -> x.slotText(0));
-        state(p, 0, "1 2 3 4 5", 0, true, false);
-        places(p, 0, 0, 0, 0, 5, -1);
+        Told.queue(p, 0, "1 2 3 4 5", 0, true, false);
+        Told.places(p, 0, 0, 0, 0, 5, -1);
         p.tells("0", x -> x.cellText(0)).tells("1", x -> x.cellText(1)).tells("5", x -> x.cellText(5));
         p.tells("0", x -> x.cellText(6));
     }
 
     private static void ringGoesAround() {
-        Probe p = numbered("promises 8 and 9, a ring");
+        Probe p = Told.numbered("promises 8 and 9, a ring");
         p.refused(Probe.EMPTY, x -> x.take(1, 0));
         p.with(x -> x.put(1, 0)).with(x -> x.put(1, 1));
-        places(p, 1, 2, 3, 0, 2, -1);
+        Told.places(p, 1, 2, 3, 0, 2, -1);
         p.act(1, x -> x.take(1, 5)).tells("1", x -> x.slotText(5));
-        places(p, 1, 2, 3, 1, 2, -1);
-        state(p, 1, "2", 2, false, false);
+        Told.places(p, 1, 2, 3, 1, 2, -1);
+        Told.queue(p, 1, "2", 2, false, false);
         p.act(2, x -> x.put(1, 2));
-        places(p, 1, 0, 1, 1, 3, -1);
-        state(p, 1, "2 3", 1, false, false);
+        Told.places(p, 1, 0, 1, 1, 3, -1);
+        Told.queue(p, 1, "2 3", 1, false, false);
         p.act(3, x -> x.put(1, 3));
-        places(p, 1, 1, 1, 1, 3, -1);
-        state(p, 1, "2 3 4", 0, true, false);
+        Told.places(p, 1, 1, 1, 1, 3, -1);
+        Told.queue(p, 1, "2 3 4", 0, true, false);
         p.refused(Probe.FULL, x -> x.put(1, 4));
         p.act(2, x -> x.take(1, 0)).act(1, x -> x.take(1, 0)).tells("3", x -> x.slotText(0));
-        places(p, 1, 1, 3, 0, 1, -1);
-        state(p, 1, "4", 2, false, false);
+        Told.places(p, 1, 1, 3, 0, 1, -1);
+        Told.queue(p, 1, "4", 2, false, false);
         p.act(0, x -> x.take(1, 0)).tells("4", x -> x.slotText(0));
-        state(p, 1, "", 3, false, true);
+        Told.queue(p, 1, "", 3, false, true);
         p.refused(Probe.EMPTY, x -> x.take(1, 0));
         p.tells("4", x -> x.cellText(6)).tells("2", x -> x.cellText(7)).tells("3", x -> x.cellText(8));
     }
 
     private static void ringKeeps() {
-        Probe p = numbered("promises 12 to 14, a ring");
+        Probe p = Told.numbered("promises 12 to 14, a ring");
         p.with(x -> x.put(1, 0)).with(x -> x.put(1, 1)).with(x -> x.take(1, 5));
         p.act(1, x -> x.mark(1)).act(0, x -> x.take(1, 5));
-        places(p, 1, 2, 3, 2, 2, 1);
-        state(p, 1, "", 2, false, true);
+        Told.places(p, 1, 2, 3, 2, 2, 1);
+        Told.queue(p, 1, "", 2, false, true);
         p.act(1, x -> x.put(1, 2)).act(2, x -> x.put(1, 3)).refused(Probe.FULL, x -> x.put(1, 4));
-        places(p, 1, 1, 1, 2, 3, 1);
-        state(p, 1, "3 4", 0, true, false);
+        Told.places(p, 1, 1, 1, 2, 3, 1);
+        Told.queue(p, 1, "3 4", 0, true, false);
         p.act(1, x -> x.back(1));
-        places(p, 1, 1, 1, 1, 3, 1);
-        state(p, 1, "2 3 4", 0, true, false);
+        Told.places(p, 1, 1, 1, 1, 3, 1);
+        Told.queue(p, 1, "2 3 4", 0, true, false);
         p.act(0, x -> x.back(1)).act(2, x -> x.take(1, 5)).act(1, x -> x.forget(1));
-        places(p, 1, 1, 2, 2, 3, -1);
-        state(p, 1, "3 4", 1, false, false);
+        Told.places(p, 1, 1, 2, 2, 3, -1);
+        Told.queue(p, 1, "3 4", 1, false, false);
         p.refused(Probe.UNMARKED, x -> x.forget(1)).refused(Probe.UNMARKED, x -> x.back(1));
     }
 
     private static void ringKeepsAround() {
-        Probe p = numbered("promise 12, a mark that lets others in");
+        Probe p = Told.numbered("promise 12, a mark that lets others in");
         for (int i = 0; i < 5; i++) {
             int slot = i;
             p.with(x -> x.put(0, slot));
         }
         p.act(0, x -> x.mark(0)).act(4, x -> x.take(0, 5)).act(3, x -> x.take(0, 5));
-        state(p, 0, "3 4 5", 0, true, false);
+        Told.queue(p, 0, "3 4 5", 0, true, false);
         p.act(2, x -> x.mark(0));
-        places(p, 0, 0, 2, 2, 5, 2);
-        state(p, 0, "3 4 5", 2, false, false);
+        Told.places(p, 0, 0, 2, 2, 5, 2);
+        Told.queue(p, 0, "3 4 5", 2, false, false);
         p.act(0, x -> x.back(0)).act(0, x -> x.forget(0)).act(4, x -> x.put(0, 0));
-        state(p, 0, "3 4 5 1", 1, false, false);
+        Told.queue(p, 0, "3 4 5 1", 1, false, false);
     }
 
     private static void markGoesWithTheReader() {
-        Probe p = numbered("promise 9, the reader rewound");
+        Probe p = Told.numbered("promise 9, the reader rewound");
         p.with(x -> x.put(1, 0)).with(x -> x.put(1, 1)).with(x -> x.put(1, 2));
         p.act(0, x -> x.mark(1)).act(2, x -> x.take(1, 5)).act(1, x -> x.take(1, 5));
         p.refused(Probe.FULL, x -> x.put(1, 0));
         p.act(0, x -> x.take(1, 5));
-        places(p, 1, 0, 3, 0, 0, -1);
-        state(p, 1, "", 3, false, true);
+        Told.places(p, 1, 0, 3, 0, 0, -1);
+        Told.queue(p, 1, "", 3, false, true);
         p.refused(Probe.UNMARKED, x -> x.back(1)).refused(Probe.UNMARKED, x -> x.forget(1));
     }
 
     private static void lineFillsOnce() {
-        Probe p = numbered("promises 8 and 9, the line");
+        Probe p = Told.numbered("promises 8 and 9, the line");
         for (int i = 0; i < 6; i++) {
             int k = i;
             p.act(k + 1, x -> x.put(2, k));
         }
         p.refused(Probe.FULL, x -> x.put(2, 0));
-        places(p, 2, 6, 6, 0, 6, -1);
+        Told.places(p, 2, 6, 6, 0, 6, -1);
         for (int i = 0; i < 6; i++) {
             int k = i;
             p.act(5 - k, x -> x.take(2, 0)).tells(Integer.toString(k + 1), x -> x.slotText(0));
             p.refused(Probe.FULL, x -> x.put(2, 0));
         }
-        state(p, 2, "", 0, true, true);
-        places(p, 2, 6, 6, 6, 6, -1);
+        Told.queue(p, 2, "", 0, true, true);
+        Told.places(p, 2, 6, 6, 6, 6, -1);
         p.refused(Probe.EMPTY, x -> x.take(2, 0));
         p.act(6, x -> x.mark(2)).act(0, x -> x.back(2));
         p.tells("0", x -> x.cellText(8)).tells("1", x -> x.cellText(9)).tells("6", x -> x.cellText(14));
@@ -149,7 +125,7 @@ public final class QueueTest {
     }
 
     private static void lookAndMend() {
-        Probe p = numbered("promises 10 and 11");
+        Probe p = Told.numbered("promises 10 and 11");
         p.refused(Probe.BEYOND, x -> x.look(0, 0, 0)).refused(Probe.BEYOND, x -> x.mend(0, 0, 0));
         p.with(x -> x.put(1, 0)).with(x -> x.put(1, 1)).with(x -> x.take(1, 5));
         p.with(x -> x.put(1, 2)).with(x -> x.put(1, 3)).with(x -> x.lay(5, -1, -1));
@@ -161,7 +137,7 @@ public final class QueueTest {
         p.act(1, x -> x.mend(1, 0, 0)).act(1, x -> x.mend(1, 1, 1)).act(1, x -> x.mend(1, 2, 2));
         p.act(0, x -> x.mend(1, 2, 2)).tells("1 2 3", x -> x.queueText(1));
         p.refused(Probe.BEYOND, x -> x.mend(1, 3, 0)).refused(Probe.BEYOND, x -> x.mend(1, 9, 0));
-        places(p, 1, 1, 1, 1, 3, -1);
+        Told.places(p, 1, 1, 1, 1, 3, -1);
         p.tells("3", x -> x.cellText(6)).tells("1", x -> x.cellText(7)).tells("2", x -> x.cellText(8));
         p.thrown(Probe.ARGUMENT, x -> x.look(1, 10, 5)).thrown(Probe.ARGUMENT, x -> x.look(1, -1, 5));
         p.thrown(Probe.ARGUMENT, x -> x.mend(1, 10, 5)).thrown(Probe.ARGUMENT, x -> x.mend(1, MIN, 5));
@@ -170,20 +146,20 @@ public final class QueueTest {
     }
 
     private static void marks() {
-        Probe p = numbered("promises 12 to 14, the line");
+        Probe p = Told.numbered("promises 12 to 14, the line");
         p.refused(Probe.UNMARKED, x -> x.back(2)).refused(Probe.UNMARKED, x -> x.forget(2));
         p.act(0, x -> x.mark(2)).with(x -> x.put(2, 0)).with(x -> x.put(2, 1)).with(x -> x.put(2, 2));
         p.with(x -> x.take(2, 5)).with(x -> x.take(2, 5));
-        places(p, 2, 3, 6, 2, 3, 0);
+        Told.places(p, 2, 3, 6, 2, 3, 0);
         p.act(2, x -> x.back(2)).tells("1 2 3", x -> x.queueText(2)).tells(0, x -> x.place(2, 4));
         p.with(x -> x.take(2, 5)).act(1, x -> x.mark(2)).with(x -> x.take(2, 5));
         p.act(1, x -> x.back(2)).with(x -> x.take(2, 5)).act(1, x -> x.forget(2));
-        places(p, 2, 3, 6, 2, 3, -1);
+        Told.places(p, 2, 3, 6, 2, 3, -1);
         p.tells("3", x -> x.queueText(2)).refused(Probe.UNMARKED, x -> x.back(2));
     }
 
     private static void squeeze() {
-        Probe p = numbered("promise 15");
+        Probe p = Told.numbered("promise 15");
         p.act(0, x -> x.squeeze()).act(0, x -> x.mark(2)).act(0, x -> x.squeeze());
         p.refused(Probe.UNMARKED, x -> x.back(2));
         for (int i = 0; i < 6; i++) {
@@ -192,16 +168,16 @@ public final class QueueTest {
         }
         p.with(x -> x.take(2, 0)).with(x -> x.mark(2)).with(x -> x.take(2, 0));
         p.act(2, x -> x.squeeze());
-        places(p, 2, 4, 6, 0, 4, -1);
-        state(p, 2, "3 4 5 6", 2, false, false);
+        Told.places(p, 2, 4, 6, 0, 4, -1);
+        Told.queue(p, 2, "3 4 5 6", 2, false, false);
         p.tells("6", x -> x.cellText(12)).tells("5", x -> x.cellText(13)).tells("6", x -> x.cellText(14));
         p.act(0, x -> x.squeeze()).act(5, x -> x.put(2, 5));
-        state(p, 2, "3 4 5 6 6", 1, false, false);
+        Told.queue(p, 2, "3 4 5 6 6", 1, false, false);
         p.tells("6", x -> x.cellText(13)).tells("6", x -> x.cellText(14));
     }
 
     private static void empty() {
-        Probe p = numbered("promise 16");
+        Probe p = Told.numbered("promise 16");
         p.act(0, x -> x.empty(0));
         for (int i = 0; i < 5; i++) {
             int slot = i;
@@ -209,19 +185,19 @@ public final class QueueTest {
         }
         p.with(x -> x.take(0, 5)).with(x -> x.mark(0)).with(x -> x.take(0, 5)).with(x -> x.put(0, 5));
         p.act(4, x -> x.empty(0));
-        places(p, 0, 0, 5, 0, 0, -1);
-        state(p, 0, "", 5, false, true);
+        Told.places(p, 0, 0, 5, 0, 0, -1);
+        Told.queue(p, 0, "", 5, false, true);
         p.tells("2", x -> x.cellText(1)).tells("2", x -> x.cellText(2)).tells("5", x -> x.cellText(5));
         p.refused(Probe.UNMARKED, x -> x.back(0)).act(1, x -> x.put(0, 3));
-        places(p, 0, 1, 5, 0, 1, -1);
+        Told.places(p, 0, 1, 5, 0, 1, -1);
         p.with(x -> x.take(2, 5)).act(4, x -> x.empty(2));
-        places(p, 2, 0, 6, 0, 0, -1);
+        Told.places(p, 2, 0, 6, 0, 0, -1);
         p.tells(0, x -> x.lies(1)).act(1, x -> x.put(2, 0)).tells(1, x -> x.lies(0));
         p.act(0, x -> x.mark(1)).act(0, x -> x.empty(1)).refused(Probe.UNMARKED, x -> x.back(1));
     }
 
     private static void pass() {
-        Probe p = numbered("promise 17");
+        Probe p = Told.numbered("promise 17");
         p.act(0, x -> x.pass(0, 1));
         for (int i = 0; i < 5; i++) {
             int slot = i;
@@ -239,7 +215,7 @@ public final class QueueTest {
     }
 
     private static void poke() {
-        Probe p = numbered("promise 18");
+        Probe p = Told.numbered("promise 18");
         p.with(x -> x.put(0, 0)).with(x -> x.put(0, 1)).with(x -> x.take(0, 5));
         for (int i = 0; i < 12; i++) {
             int k = i;
@@ -250,12 +226,12 @@ public final class QueueTest {
     }
 
     private static void tellers() {
-        Probe p = numbered("promises 19 to 23");
+        Probe p = Told.numbered("promises 19 to 23");
         p.with(x -> x.put(2, 0)).with(x -> x.put(2, 1)).with(x -> x.take(2, 5));
-        places(p, 2, 2, 6, 1, 2, -1, 6, 9);
-        state(p, 2, "2", 4, false, false);
-        places(p, 0, 0, 5, 0, 0, -1, 5, 1);
-        places(p, 1, 0, 3, 0, 0, -1, 3, 6);
+        Told.places(p, 2, 2, 6, 1, 2, -1, 6, 9);
+        Told.queue(p, 2, "2", 4, false, false);
+        Told.places(p, 0, 0, 5, 0, 0, -1, 5, 1);
+        Told.places(p, 1, 0, 3, 0, 0, -1, 3, 6);
         p.thrown(Probe.ARGUMENT, x -> x.place(0, 7)).thrown(Probe.ARGUMENT, x -> x.place(0, -1));
         p.thrown(Probe.INDEX, x -> x.place(3, 7)).thrown(Probe.INDEX, x -> x.place(-1, 0));
     }

@@ -27,31 +27,14 @@ public final class ShelfTest {
         int[] firsts = {1, 6, 9};
         for (int i = 0; i < 3; i++) {
             int queue = i;
-            int[] places = {0, sizes[i], 0, 0, -1, sizes[i], firsts[i]};
-            for (int k = 0; k < places.length; k++) {
-                int what = k;
-                p.tells(places[k], x -> x.place(queue, what));
-            }
-            p.tells("", x -> x.queueText(queue)).tells(0, x -> x.lies(queue)).tells(sizes[i], x -> x.room(queue));
-            p.tells(true, x -> x.isEmpty(queue)).tells(false, x -> x.isFull(queue));
+            Told.places(p, queue, 0, sizes[i], 0, 0, -1, sizes[i], firsts[i]);
+            Told.queue(p, queue, "", sizes[i], false, true);
         }
-        tellAll(p, new int[] {0, 10, 10, 10, -1, 0, 1, 0}, 0);
-        tellAll(p, new int[] {1, 15, 16, 14, -1, 1, 0, 0, -1}, 1);
-        tellAll(p, new int[] {0, 24, 24, 24, -1, 0, 1, 0, 11}, 2);
-        tellAll(p, new int[] {0, 0, 0, 0, 0, 0, 0, 0}, 3);
+        Told.pipe(p, 0, 10, 10, 10, -1, 0, 1, 0);
+        Told.lens(p, 0, 1, 15, 16, 14, -1, 1, 0, 0, -1);
+        Told.lens(p, 1, 0, 24, 24, 24, -1, 0, 1, 0, 11);
+        p.tellsEach((x, what) -> x.house(what), 0, 0, 0, 0, 0, 0, 0, 0);
         p.tells("", x -> x.pipeText());
-    }
-
-    private static void tellAll(Probe p, int[] wants, int kind) {
-        for (int k = 0; k < wants.length; k++) {
-            int what = k;
-            switch (kind) {
-                case 0 -> p.tells(wants[k], x -> x.pipe(what));
-                case 1 -> p.tells(wants[k], x -> x.lens(0, what));
-                case 2 -> p.tells(wants[k], x -> x.lens(1, what));
-                default -> p.tells(wants[k], x -> x.house(what));
-            }
-        }
     }
 
     private static void lay() {

@@ -25,13 +25,10 @@ public final class WholeTest {
         p.with(x -> x.poke(0, 0)).with(x -> x.poke(0, 0)).with(x -> x.poke(0, 0)).with(x -> x.poke(0, 0));
         p.with(x -> x.shortAt(-1)).with(x -> x.lensPlace(0, -1)).with(x -> x.lensPlace(0, -1));
         p.with(x -> x.lensLimit(1, 0)).with(x -> x.putNext(0)).with(x -> x.knock());
-        int[] wants = {4, 1, 2, 3, 4, 1, 2, 1};
-        for (int k = 0; k < wants.length; k++) {
-            int what = k;
-            p.tells(wants[k], x -> x.house(what));
-        }
+        p.tellsEach((x, what) -> x.house(what), 4, 1, 2, 3, 4, 1, 2, 1);
         p.thrown(Probe.ARGUMENT, x -> x.house(8)).thrown(Probe.ARGUMENT, x -> x.house(-1));
-        p.thrown(Probe.ARGUMENT, x -> x.house(Integer.MIN_VALUE)).thrown(Probe.ARGUMENT, x -> x.house(Integer.MAX_VALUE));
+        p.thrown(Probe.ARGUMENT, x -> x.house(Integer.MIN_VALUE))
+                .thrown(Probe.ARGUMENT, x -> x.house(Integer.MAX_VALUE));
     }
 
     private static void knock() {
