@@ -8,10 +8,6 @@ public final class NumberEdgeTest {
     private static final int MAX = Integer.MAX_VALUE;
     private static final int[] ENDS = {MIN, MIN + 1, -65537, -65536, -32769, -32768, -1, 0, 1, 32767, 32768, 65535,
         65536, MAX - 1, MAX};
-    private static final BigInteger TWO_64 = BigInteger.ONE.shiftLeft(64);
-    private static final BigInteger TWO_63 = BigInteger.ONE.shiftLeft(63);
-
-    private static long unwrappedOnce = 0;
 
     public static void main(String[] args) {
         numbers();
@@ -179,71 +175,19 @@ public final class NumberEdgeTest {
         }
     }
 
-    /** The checksum without bounds, then wrapped around. */
-    private static long wrapped(List<Long> values) {
-        BigInteger d = BigInteger.valueOf(7701);
-        for (long v : values) {
-            d = d.multiply(BigInteger.valueOf(31)).add(BigInteger.valueOf(v));
-        }
-        if (d.bitLength() > 64) {
-            unwrappedOnce++;
-        }
-        BigInteger within = d.mod(TWO_64);
-        return within.compareTo(TWO_63) < 0 ? within.longValueExact() : within.subtract(TWO_64).longValueExact();
-    }
-
-    private static List<Long> longs(int... values) {
-        List<Long> list = new ArrayList<>();
-        for (int value : values) {
-            list.add((long) value);
-        }
-        return list;
-    }
-
     /** All values written out from the document, none asked of the object. */
     private static void digestOfANewObject() {
-        List<Long> values = longs(new int[12]);
-        values.addAll(longs(0, 5, 0, 5, 0, 0, -1, 5, 1, 0));
-        values.addAll(longs(0, 3, 0, 3, 0, 0, -1, 3, 6, 0));
-        values.addAll(longs(0, 6, 0, 6, 0, 0, -1, 6, 9, 0));
-        values.addAll(longs(new int[32]));
-        values.addAll(longs(0, 10, 10, 10, -1, 0, 1, 0, 0));
-        values.addAll(longs(1, 15, 16, 14, -1, 1, 0, 0, -1));
-        values.addAll(longs(0, 24, 24, 24, -1, 0, 1, 0, 11));
-        values.addAll(longs(new int[8]));
+        List<Long> values = Digest.longs(new int[12]);
+        values.addAll(Digest.longs(0, 5, 0, 5, 0, 0, -1, 5, 1, 0));
+        values.addAll(Digest.longs(0, 3, 0, 3, 0, 0, -1, 3, 6, 0));
+        values.addAll(Digest.longs(0, 6, 0, 6, 0, 0, -1, 6, 9, 0));
+        values.addAll(Digest.longs(new int[32]));
+        values.addAll(Digest.longs(0, 10, 10, 10, -1, 0, 1, 0, 0));
+        values.addAll(Digest.longs(1, 15, 16, 14, -1, 1, 0, 0, -1));
+        values.addAll(Digest.longs(0, 24, 24, 24, -1, 0, 1, 0, 11));
+        values.addAll(Digest.longs(new int[8]));
         values.add(1L);
-        new Probe("promise 51, a new object").tells(wrapped(values), x -> x.digest());
-    }
-
-    /** The values in the document's order, asked of the object. */
-    private static List<Long> valuesOf(Sluiceshelf x) {
-        List<Long> values = new ArrayList<>();
-        for (int slot = 0; slot < 6; slot++) {
-            values.addAll(longs(x.upper(slot), x.lower(slot)));
-        }
-        for (int queue = 0; queue < 3; queue++) {
-            values.addAll(longs(x.lies(queue), x.room(queue)));
-            for (int what = 0; what < 7; what++) {
-                values.addAll(longs(x.place(queue, what)));
-            }
-            values.addAll(longs(x.queueText(queue).length()));
-        }
-        for (int cell = 0; cell < 16; cell++) {
-            long number = Long.parseLong(x.cellText(cell));
-            values.addAll(longs((int) (number >> 32), (int) number));
-        }
-        for (int what = 0; what < 8; what++) {
-            values.addAll(longs(x.pipe(what)));
-        }
-        values.addAll(longs(x.pipeText().length()));
-        for (int what = 0; what < 18; what++) {
-            values.addAll(longs(x.lens(what / 9, what % 9)));
-        }
-        for (int what = 0; what < 8; what++) {
-            values.addAll(longs(x.house(what)));
-        }
-        values.addAll(longs(x.isSound() ? 1 : 0));
-        return values;
+        new Probe("promise 51, a new object").tells(Digest.wrapped(values), x -> x.digest());
     }
 
     private static void digestWrapsAround() {
@@ -255,7 +199,6 @@ public final class NumberEdgeTest {
                     .with(x -> x.turn());
             digestDue(p);
         }
-        Probe.due("promise 51, sums beyond 64 digits", unwrappedOnce > 0, true);
     }
 
     /** Each kind of refusal, the acts and the knocks stand in the checksum. */
@@ -271,6 +214,6 @@ public final class NumberEdgeTest {
     }
 
     private static void digestDue(Probe p) {
-        p.tells(true, x -> x.digest() == wrapped(valuesOf(x)));
+        p.tells(true, x -> x.digest() == Digest.of(x));
     }
 }
