@@ -15,7 +15,7 @@ final class Pair {
 
     private static final Map<String, Method> OURS = FACE.stream().collect(Collectors.toMap(Method::getName, m -> m));
     private static final Map<String, Method> THEIRS = FACE.stream()
-            .collect(Collectors.toMap(Method::getName, Pair::theirs));
+            .collect(Collectors.toMap(Method::getName, Pair::modelMethod));
 
     record Call(String name, Object... args) {
         @Override
@@ -27,7 +27,7 @@ final class Pair {
     final NioShelf model = new NioShelf();
     private final Sluiceshelf ours = new Sluiceshelf();
 
-    private static Method theirs(Method method) {
+    private static Method modelMethod(Method method) {
         try {
             return NioShelf.class.getDeclaredMethod(method.getName(), method.getParameterTypes());
         } catch (NoSuchMethodException e) {
@@ -37,12 +37,20 @@ final class Pair {
 
     /** Makes a call on both; false if they answer differently, which is told. */
     boolean answersAlike(String about, Call call) {
-        Object got = answer(OURS.get(call.name()), ours, call.args());
-        Object want = answer(THEIRS.get(call.name()), model, call.args());
+        Object got = ours(call);
+        Object want = theirs(call);
         if (!got.equals(want)) {
             Probe.due(about + ", " + call, got, want);
         }
         return got.equals(want);
+    }
+
+    Object ours(Call call) {
+        return answer(OURS.get(call.name()), ours, call.args());
+    }
+
+    Object theirs(Call call) {
+        return answer(THEIRS.get(call.name()), model, call.args());
     }
 
     boolean standsAlike(String about) {
@@ -57,7 +65,7 @@ final class Pair {
         try {
             return method.invoke(on, args);
         } catch (InvocationTargetException e) {
-            return "throws " + e.getCause().getClass().getName();
+            return "throws " + e.getCause().getClass().getSimpleName();
         } catch (IllegalAccessException e) {
             throw new IllegalStateException(e);
         }
