@@ -707,7 +707,8 @@ public final class Sluiceshelf {
     }
 
     private boolean queuesAreSound() {
-        return ring0.isOrdered() && ring1.isOrdered() && line.isOrdered();
+        return ring0.isOrdered() && ring1.isOrdered() && line.isOrdered()
+                && ring0.readsAlike(longRow) && ring1.readsAlike(longRow) && line.readsAlike(longRow);
     }
 
     private boolean slotsAreSound() {
@@ -723,7 +724,7 @@ public final class Sluiceshelf {
     }
 
     private boolean shortLensIsSound() {
-        return shortLens.isSealed || shortLens.readsAlike();
+        return shortLens.isSealed || shortLens.readsAlike(shortRow);
     }
 
     private boolean edgesAreZero() {
@@ -934,9 +935,10 @@ public final class Sluiceshelf {
             return NO_MARK <= mark && mark <= place && place <= limit && limit <= size;
         }
 
-        boolean readsAlike() {
+        /** Answers whether the cells of that row are what this reads. */
+        boolean readsAlike(Row asked) {
             for (int cell = 0; cell < size; cell++) {
-                if (readAt(cell) != row.read(first + cell)) {
+                if (readAt(cell) != asked.read(first + cell)) {
                     return false;
                 }
             }
@@ -1023,7 +1025,7 @@ public final class Sluiceshelf {
             return writer.writeAt(cellAt(ahead), number);
         }
 
-        /** Only for the line: a ring has cells in front of the reader that still count. */
+        /** Only for the line: of a ring, some may lie in the cells ahead of the reader's place. */
         void compact() {
             // the reader is sealed, so the writer stands in for it
             writer.setLimit(reader.limit);
@@ -1057,8 +1059,11 @@ public final class Sluiceshelf {
         }
 
         boolean isOrdered() {
-            return writer.isOrdered() && reader.isOrdered() && writer.readsAlike() && reader.readsAlike()
-                    && (isRing ? isOrderedRing() : isOrderedLine());
+            return writer.isOrdered() && reader.isOrdered() && (isRing ? isOrderedRing() : isOrderedLine());
+        }
+
+        boolean readsAlike(Row asked) {
+            return writer.readsAlike(asked) && reader.readsAlike(asked);
         }
 
         private boolean isOrderedRing() {

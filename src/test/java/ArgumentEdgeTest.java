@@ -1,6 +1,9 @@
+import java.io.IOException;
 import java.util.ArrayList;
 import java.util.Arrays;
 import java.util.List;
+import java.util.Set;
+import java.util.TreeSet;
 
 /**
  * Each argument of each method at the least and the greatest that is let, one too small, one too large, and at the ends
@@ -24,6 +27,12 @@ public final class ArgumentEdgeTest {
         int[] edges() {
             return kind == null ? new int[] {MIN, -1, 0, MAX}
                     : new int[] {least, greatest, least - 1, greatest + 1, MIN, MAX};
+        }
+
+        /** What the document says of an argument of this name. */
+        String thrown(String name) {
+            String between = greatest == least + 1 ? " or " : " to ";
+            return kind.getSimpleName() + " if " + name + " is not " + least + between + greatest;
         }
     }
 
@@ -103,12 +112,47 @@ public final class ArgumentEdgeTest {
             new Method(50, "isSound", (x, a) -> x.isSound()),
             new Method(51, "digest", (x, a) -> x.digest()));
 
-    public static void main(String[] args) {
+    public static void main(String[] args) throws IOException {
+        asDocumented();
         inState(new Probe("a new object"), false);
         inState(new Probe("new, draining").with(x -> x.turn()), true);
         inState(busy(), false);
         inState(busy().with(x -> x.turn()), true);
+        inState(new Probe("full, filling").with(x -> x.pourAll(0, 0)).with(x -> x.pourAll(0, 0))
+                .with(x -> x.pourAll(0, 0)), false);
         Probe.end();
+    }
+
+    /** The ranges are the document's, and nothing that it says is thrown is left out. */
+    private static void asDocumented() throws IOException {
+        List<Method> all = new ArrayList<>();
+        for (List<Method> methods : List.of(SHELF, QUEUES, FILLS, DRAINS, PIPE, LENSES, WHOLE)) {
+            all.addAll(methods);
+        }
+        Probe.due("methods, but for the constructor", all.size(), Doc.promises().size() - 1);
+        for (Method method : all) {
+            Doc.Promise promise = Doc.promises().get(method.promise() - 1);
+            Probe.due("promise " + method.promise(), method.name(), promise.name());
+            Set<String> said = new TreeSet<>(promise.thrown());
+            Probe.due("thrown by " + method.name() + ", document", said, thrown(method, promise));
+        }
+    }
+
+    private static Set<String> thrown(Method method, Doc.Promise promise) {
+        Set<String> thrown = new TreeSet<>();
+        String[] names = promise.call().replaceAll(".*\\(|\\)", "").split(", ");
+        for (int i = 0; i < method.ranges().length; i++) {
+            if (method.ranges()[i].kind() != null) {
+                thrown.add(method.ranges()[i].thrown(names[i]));
+            }
+        }
+        if (method.name().equals("pass")) {
+            thrown.add("IllegalArgumentException if both are the same");
+        }
+        if (FILLS.contains(method) || DRAINS.contains(method)) {
+            thrown.add("IllegalStateException if the PIPE is " + (FILLS.contains(method) ? "DRAINING" : "FILLING"));
+        }
+        return thrown;
     }
 
     private static Range upTo(int greatest) {

@@ -20,6 +20,16 @@ final class Doc {
         String name() {
             return call().substring(0, call().indexOf('('));
         }
+
+        /** What it says, but for the arguments of which it only tells what they are. */
+        Sentences sentences() {
+            StringBuilder text = new StringBuilder();
+            for (String line : lines) {
+                boolean isPlain = line.startsWith("`") && !line.matches(".*\\d.*");
+                text.append(isPlain ? "" : line).append(' ');
+            }
+            return new Sentences("promise " + number, text.toString());
+        }
     }
 
     private Doc() {
@@ -37,6 +47,14 @@ final class Doc {
             }
         }
         return promises;
+    }
+
+    /** A section of the description, told by its number. */
+    static Sentences section(int number) throws IOException {
+        String description = text().split("\n## Promise 1:")[0];
+        String part = description.substring(description.indexOf("\n== " + number + ". ") + 1);
+        int end = part.indexOf("\n== ");
+        return new Sentences("section " + number, part.substring(part.indexOf('\n'), end < 0 ? part.length() : end));
     }
 
     private static Promise promise(String part) {

@@ -33,26 +33,13 @@ public final class QueueEdgeTest {
         Probe.end();
     }
 
-    private static void put(Probe p, int queue, int many) {
-        for (int i = 0; i < many; i++) {
-            int slot = i;
-            p.with(x -> x.put(queue, slot));
-        }
-    }
-
-    private static void take(Probe p, int queue, int many) {
-        for (int i = 0; i < many; i++) {
-            p.with(x -> x.take(queue, 5));
-        }
-    }
-
     private static void emptyAndFull() {
         String[] texts = {"1 2 3 4 5", "1 2 3", "1 2 3 4 5 6"};
         for (int i = 0; i < 3; i++) {
             int queue = i;
             Probe p = Told.numbered("section 4, empty and full, queue " + queue);
             Told.queue(p, queue, "", SIZES[i], false, true);
-            put(p, queue, SIZES[i]);
+            Told.put(p, queue, SIZES[i]);
             Told.queue(p, queue, texts[i], 0, true, false);
             p.with(x -> x.empty(queue));
             Told.queue(p, queue, "", SIZES[i], false, true);
@@ -66,7 +53,7 @@ public final class QueueEdgeTest {
             int size = SIZES[i];
             for (int k = 1; k < size; k++) {
                 Probe p = Told.numbered("section 4, room, queue " + queue + " with " + k);
-                put(p, queue, k);
+                Told.put(p, queue, k);
                 p.tells(size - k, x -> x.room(queue)).tells(k, x -> x.lies(queue));
                 p.tells(false, x -> x.isFull(queue)).tells(false, x -> x.isEmpty(queue));
                 Told.places(p, queue, k, size, 0, k, -1);
@@ -76,8 +63,8 @@ public final class QueueEdgeTest {
 
     private static void lineIsBothAtItsEnd() {
         Probe p = Told.numbered("section 4, the line is both at its end");
-        put(p, 2, 6);
-        take(p, 2, 5);
+        Told.put(p, 2, 6);
+        Told.take(p, 2, 5);
         Told.queue(p, 2, "6", 0, true, false);
         p.act(0, x -> x.take(2, 5));
         Told.queue(p, 2, "", 0, true, true);
@@ -91,9 +78,9 @@ public final class QueueEdgeTest {
 
     private static void lineAtItsEndGetsRoom() {
         Probe p = Told.numbered("section 4, the line behind its end");
-        put(p, 2, 6);
+        Told.put(p, 2, 6);
         p.act(0, x -> x.mark(2));
-        take(p, 2, 6);
+        Told.take(p, 2, 6);
         p.branch("promise 13, all of the line set back").act(6, x -> x.back(2))
                 .tells("1 2 3 4 5 6", x -> x.queueText(2)).refused(Probe.FULL, x -> x.put(2, 0));
         Probe squeezed = p.branch("promise 15, at the end of the line").act(6, x -> x.squeeze());
@@ -119,8 +106,8 @@ public final class QueueEdgeTest {
     private static void ringAround(int queue, int start, boolean marked) {
         int size = SIZES[queue];
         Probe p = Told.numbered("section 4, ring " + queue + " around from " + start + (marked ? ", marked" : ""));
-        put(p, queue, start);
-        take(p, queue, start);
+        Told.put(p, queue, start);
+        Told.take(p, queue, start);
         if (marked) {
             p.act(start, x -> x.mark(queue));
         }
@@ -153,8 +140,8 @@ public final class QueueEdgeTest {
 
     private static void ringFillsOnTheWayAround() {
         Probe p = Told.numbered("section 4, the writer is rewound, then the reader");
-        put(p, 1, 2);
-        take(p, 1, 2);
+        Told.put(p, 1, 2);
+        Told.take(p, 1, 2);
         Told.places(p, 1, 2, 3, 2, 2, -1);
         p.act(1, x -> x.put(1, 0));
         Told.places(p, 1, 0, 2, 2, 3, -1);
@@ -166,8 +153,8 @@ public final class QueueEdgeTest {
 
     private static void markHoldsTheRoom() {
         Probe p = Told.numbered("section 4, kept ones are no room");
-        put(p, 0, 4);
-        take(p, 0, 1);
+        Told.put(p, 0, 4);
+        Told.take(p, 0, 1);
         p.act(1, x -> x.mark(0)).act(2, x -> x.take(0, 5)).act(1, x -> x.take(0, 5));
         Told.queue(p, 0, "4", 2, false, false);
         p.act(2, x -> x.put(0, 4));
@@ -182,9 +169,9 @@ public final class QueueEdgeTest {
 
     private static void markIsGoneWithTheRewoundReader() {
         Probe p = Told.numbered("section 4, the rewound reader's mark is gone");
-        put(p, 0, 5);
+        Told.put(p, 0, 5);
         p.act(0, x -> x.mark(0));
-        take(p, 0, 4);
+        Told.take(p, 0, 4);
         Told.places(p, 0, 0, 0, 4, 5, 0);
         Told.queue(p, 0, "5", 0, true, false);
         p.act(0, x -> x.take(0, 5));
@@ -192,8 +179,8 @@ public final class QueueEdgeTest {
         Told.queue(p, 0, "", 5, false, true);
         p.refused(Probe.UNMARKED, x -> x.back(0)).refused(Probe.UNMARKED, x -> x.forget(0));
         Probe later = Told.numbered("section 4, a mark behind which others lie");
-        put(later, 1, 3);
-        take(later, 1, 2);
+        Told.put(later, 1, 3);
+        Told.take(later, 1, 2);
         later.act(2, x -> x.mark(1)).act(2, x -> x.put(1, 3)).act(1, x -> x.take(1, 5));
         Told.places(later, 1, 1, 3, 0, 1, -1);
         Told.queue(later, 1, "4", 2, false, false);
@@ -203,7 +190,7 @@ public final class QueueEdgeTest {
     /** Only the reader's own end takes the mark: the writer's end does not. */
     private static void markBeforeTheEndStays() {
         Probe p = Told.numbered("section 4, the writer goes around a mark");
-        put(p, 1, 2);
+        Told.put(p, 1, 2);
         p.act(0, x -> x.mark(1)).act(1, x -> x.take(1, 5)).act(2, x -> x.put(1, 2));
         Told.places(p, 1, 0, 0, 1, 3, 0);
         Told.queue(p, 1, "2 3", 0, true, false);
@@ -212,8 +199,8 @@ public final class QueueEdgeTest {
 
     private static void backWhileAround() {
         Probe p = Told.numbered("promise 13, around");
-        put(p, 0, 4);
-        take(p, 0, 3);
+        Told.put(p, 0, 4);
+        Told.take(p, 0, 3);
         p.act(3, x -> x.mark(0)).act(2, x -> x.put(0, 4)).act(3, x -> x.put(0, 0)).act(2, x -> x.take(0, 5));
         Told.places(p, 0, 1, 3, 4, 5, 3);
         Told.queue(p, 0, "5 1", 2, false, false);
@@ -225,21 +212,21 @@ public final class QueueEdgeTest {
 
     private static void forgetGivesRoom() {
         Probe p = Told.numbered("promise 14, the room of the kept ones");
-        put(p, 0, 5);
+        Told.put(p, 0, 5);
         p.act(0, x -> x.mark(0)).act(4, x -> x.take(0, 5)).act(3, x -> x.take(0, 5));
         p.tells(0, x -> x.room(0)).tells(true, x -> x.isFull(0)).act(2, x -> x.forget(0));
         Told.places(p, 0, 0, 2, 2, 5, -1);
         Told.queue(p, 0, "3 4 5", 2, false, false);
         p.act(4, x -> x.put(0, 0)).act(5, x -> x.put(0, 0)).refused(Probe.FULL, x -> x.put(0, 0));
         Probe notAround = Told.numbered("promise 14, not around");
-        put(notAround, 1, 2);
+        Told.put(notAround, 1, 2);
         notAround.act(0, x -> x.mark(1)).act(1, x -> x.take(1, 5)).tells(1, x -> x.room(1));
         notAround.act(1, x -> x.forget(1)).tells(2, x -> x.room(1)).tells("2", x -> x.queueText(1));
     }
 
     private static void markAgainLetsGo() {
         Probe p = Told.numbered("promise 12, those that were kept are not any more");
-        put(p, 1, 3);
+        Told.put(p, 1, 3);
         p.act(0, x -> x.mark(1)).act(2, x -> x.take(1, 5)).tells(0, x -> x.room(1)).act(1, x -> x.mark(1));
         Told.places(p, 1, 0, 1, 1, 3, 1);
         Told.queue(p, 1, "2 3", 1, false, false);
@@ -259,9 +246,9 @@ public final class QueueEdgeTest {
 
     private static void lineMarksHoldNoRoom() {
         Probe p = Told.numbered("section 4, the room of the line");
-        put(p, 2, 3);
+        Told.put(p, 2, 3);
         p.act(0, x -> x.mark(2));
-        take(p, 2, 2);
+        Told.take(p, 2, 2);
         Told.queue(p, 2, "3", 3, false, false);
         p.branch("promise 13, the line").act(2, x -> x.back(2)).tells(3, x -> x.room(2))
                 .tells("1 2 3", x -> x.queueText(2)).tells(0, x -> x.place(2, 4));
@@ -275,10 +262,10 @@ public final class QueueEdgeTest {
 
     private static void squeezeForgetsTheKept() {
         Probe p = Told.numbered("promise 15, kept ones are written over");
-        put(p, 2, 4);
-        take(p, 2, 1);
+        Told.put(p, 2, 4);
+        Told.take(p, 2, 1);
         p.act(1, x -> x.mark(2));
-        take(p, 2, 1);
+        Told.take(p, 2, 1);
         p.act(2, x -> x.squeeze());
         Told.places(p, 2, 2, 6, 0, 2, -1);
         Told.queue(p, 2, "3 4", 4, false, false);
@@ -289,18 +276,18 @@ public final class QueueEdgeTest {
 
     private static void squeezeAtBothEnds() {
         Probe full = Told.numbered("promise 15, a full line from its start on");
-        put(full, 2, 6);
+        Told.put(full, 2, 6);
         full.actWithoutChange(0, x -> x.squeeze()).act(0, x -> x.mark(2)).act(0, x -> x.squeeze());
         Told.places(full, 2, 6, 6, 0, 6, -1);
         full.tells("1 2 3 4 5 6", x -> x.queueText(2)).refused(Probe.FULL, x -> x.put(2, 0));
-        take(full, 2, 1);
+        Told.take(full, 2, 1);
         full.act(1, x -> x.squeeze());
         Told.places(full, 2, 5, 6, 0, 5, -1);
         Told.queue(full, 2, "2 3 4 5 6", 1, false, false);
         full.tells("6", x -> x.cellText(14)).tells("6", x -> x.cellText(13)).tells("0", x -> x.cellText(15));
         Probe none = Told.numbered("promise 15, none lie there");
-        put(none, 2, 2);
-        take(none, 2, 2);
+        Told.put(none, 2, 2);
+        Told.take(none, 2, 2);
         none.act(2, x -> x.squeeze());
         Told.places(none, 2, 0, 6, 0, 0, -1);
         Told.queue(none, 2, "", 6, false, true);
@@ -309,7 +296,7 @@ public final class QueueEdgeTest {
 
     private static void emptyAround() {
         Probe p = Told.numbered("promise 16, around and marked");
-        put(p, 1, 3);
+        Told.put(p, 1, 3);
         p.act(0, x -> x.mark(1)).act(2, x -> x.take(1, 5)).act(2, x -> x.empty(1));
         Told.places(p, 1, 0, 3, 0, 0, -1);
         Told.queue(p, 1, "", 3, false, true);
@@ -324,8 +311,8 @@ public final class QueueEdgeTest {
 
     private static Probe acrossTheEnd(String about) {
         Probe p = Told.numbered(about);
-        put(p, 0, 5);
-        take(p, 0, 3);
+        Told.put(p, 0, 5);
+        Told.take(p, 0, 3);
         return p.with(x -> x.put(0, 0)).with(x -> x.put(0, 1)).with(x -> x.lay(5, 0, 0));
     }
 
@@ -356,7 +343,7 @@ public final class QueueEdgeTest {
 
     private static void passStopsAtFull() {
         Probe p = Told.numbered("promise 17, the other one gets full");
-        put(p, 2, 6);
+        Told.put(p, 2, 6);
         p.act(3, x -> x.pass(2, 1)).tells("4 5 6", x -> x.queueText(2)).tells("1 2 3", x -> x.queueText(1));
         p.tells(true, x -> x.isFull(1)).actWithoutChange(0, x -> x.pass(2, 1));
         p.act(3, x -> x.pass(2, 0)).tells("", x -> x.queueText(2)).tells("4 5 6", x -> x.queueText(0));
@@ -364,36 +351,36 @@ public final class QueueEdgeTest {
 
     private static void passStopsAtEmpty() {
         Probe p = Told.numbered("promise 17, the one gets empty");
-        put(p, 1, 2);
+        Told.put(p, 1, 2);
         p.act(2, x -> x.pass(1, 0)).tells(true, x -> x.isEmpty(1)).tells("1 2", x -> x.queueText(0));
         p.actWithoutChange(0, x -> x.pass(1, 0)).actWithoutChange(0, x -> x.pass(1, 2));
         Probe exact = Told.numbered("promise 17, both at once");
-        put(exact, 1, 3);
+        Told.put(exact, 1, 3);
         exact.with(x -> x.put(0, 5)).with(x -> x.put(0, 5)).act(3, x -> x.pass(1, 0));
         exact.tells(true, x -> x.isEmpty(1)).tells(true, x -> x.isFull(0)).tells("6 6 1 2 3", x -> x.queueText(0));
     }
 
     private static void passTakesAndKeeps() {
         Probe p = Told.numbered("promise 17, kept ones of the one");
-        put(p, 0, 3);
+        Told.put(p, 0, 3);
         p.act(0, x -> x.mark(0)).act(3, x -> x.pass(0, 1)).tells(2, x -> x.room(0));
         Told.places(p, 0, 3, 5, 3, 3, 0);
         p.act(3, x -> x.back(0)).tells("1 2 3", x -> x.queueText(0)).tells("1 2 3", x -> x.queueText(1));
         Probe into = Told.numbered("promise 17, kept ones of the other one");
-        put(into, 1, 2);
+        Told.put(into, 1, 2);
         into.act(0, x -> x.mark(1)).act(1, x -> x.take(1, 5));
-        put(into, 2, 3);
+        Told.put(into, 2, 3);
         into.act(1, x -> x.pass(2, 1)).tells("2 1", x -> x.queueText(1)).tells("2 3", x -> x.queueText(2));
         into.act(1, x -> x.back(1)).tells("1 2 1", x -> x.queueText(1));
     }
 
     private static void passGoesAround() {
         Probe p = Told.numbered("promise 17, around on both sides");
-        put(p, 0, 4);
-        take(p, 0, 3);
+        Told.put(p, 0, 4);
+        Told.take(p, 0, 3);
         p.with(x -> x.put(0, 4)).with(x -> x.put(0, 0)).with(x -> x.mark(0)).tells("4 5 1", x -> x.queueText(0));
-        put(p, 1, 2);
-        take(p, 1, 2);
+        Told.put(p, 1, 2);
+        Told.take(p, 1, 2);
         p.act(3, x -> x.pass(0, 1));
         Told.places(p, 0, 1, 5, 1, 1, -1);
         Told.places(p, 1, 2, 2, 2, 3, -1);
@@ -403,7 +390,7 @@ public final class QueueEdgeTest {
     private static void queuesDoNotTouch() {
         Probe p = Told.numbered("section 3, the cells of each queue");
         for (int i = 0; i < 3; i++) {
-            put(p, i, SIZES[i]);
+            Told.put(p, i, SIZES[i]);
         }
         String[] cells = {"0", "1", "2", "3", "4", "5", "1", "2", "3", "1", "2", "3", "4", "5", "6", "0"};
         p.tellsEach((x, cell) -> x.cellText(cell), (Object[]) cells);

@@ -18,7 +18,8 @@ import java.util.stream.Collectors;
  */
 public final class ReadmeTest {
     private static final String NEW_OBJECT = "Sluiceshelf s = new Sluiceshelf();";
-    private static final Pattern CALL = Pattern.compile("(?:System.out.println\\()?s\\.(\\w+)\\(([-\\d, ]*)\\)\\)?; *// (.+)");
+    private static final Pattern CALL = Pattern
+            .compile("(?:System.out.println\\()?s\\.(\\w+)\\(([-\\d, ]*)\\)\\)?; *// (.+)");
     private static final Pattern ANSWER = Pattern.compile("(-?\\d+|true|false|\"[^\"]*\"|throws \\w+)(: .+)?");
     private static final Pattern LISTED = Pattern.compile("- (\\d+) `([^`]+)`: (.+)");
     private static final Pattern ROW = Pattern.compile("(?m)^\\| (.+) \\|$");

@@ -20,6 +20,23 @@ final class Told {
                 .with(x -> x.lay(1, 0xFFFFFFFE, 0xFFFDFFFC));
     }
 
+    /** So many come in, from slot 0 on. */
+    static Probe put(Probe p, int queue, int many) {
+        for (int i = 0; i < many; i++) {
+            int slot = i;
+            p.with(x -> x.put(queue, slot));
+        }
+        return p;
+    }
+
+    /** So many go out, into slot 5. */
+    static Probe take(Probe p, int queue, int many) {
+        for (int i = 0; i < many; i++) {
+            p.with(x -> x.take(queue, 5));
+        }
+        return p;
+    }
+
     /** WRITER's place and limit, then READER's place, limit and mark, then size and first. */
     static void places(Probe p, int queue, Object... wants) {
         p.tellsEach((x, what) -> x.place(queue, what), wants);
